@@ -1,7 +1,8 @@
-/** All promises at once: long runs of calls, each answer compared with the model's. The runs are always the same. */
+/** All promises at once: runs of 512 calls, each answer compared with the model's. The runs are always the same. */
 public final class ModelTest {
-    private static final int RUNS = 600;
+    private static final int RUNS = 3000;
     private static final int CALLS = 512;
+    private static final int QUESTIONS = 15;
 
     private static int seed;
 
@@ -18,31 +19,42 @@ public final class ModelTest {
         return (int) ((seed >>> 8) * (long) bound >> 24);
     }
 
+    /** Acts and asks, then asks everything once, and cells with what is left of the calls. */
     private static void compare(int run) {
         PlotKernel x = new PlotKernel();
         Model m = new Model();
+        int acting = run % 2 == 0 ? CALLS - QUESTIONS : 150 + pick(150);
         int calls = 0;
-        while (calls < CALLS) {
-            String what = "run " + run + " call " + calls + " ";
-            int kind = pick(100);
-            if (kind < 45) {
-                calls += feedCommand(what, x, m, run % 4);
-            } else if (kind < 70) {
-                int ticks = pick(run % 3 == 0 ? 8 : 120) + 1;
-                Check.due(what + "tick(" + ticks + ")", x.tick(ticks), m.tick(ticks));
-                calls++;
-            } else if (kind < 75) {
-                Check.due(what + "cut", x.cut(), m.cut());
-                calls++;
-            } else if (kind < 79) {
-                pourOrRefill(what, x, m);
-                calls++;
-            } else {
-                ask(what, x, m);
-                calls++;
-            }
+        while (calls + 3 <= acting) {
+            calls += act("run " + run + " call " + (calls + 1) + " ", x, m, run);
         }
-        compareAll("run " + run + " at its end ", x, m);
+        for (int question = 0; question < QUESTIONS; question++) {
+            ask("run " + run + " at its end ", x, m, question);
+            calls++;
+        }
+        for (; calls < CALLS; calls++) {
+            askCell("run " + run + " ", x, m);
+        }
+    }
+
+    private static int act(String what, PlotKernel x, Model m, int run) {
+        int kind = pick(100);
+        if (kind < 30) {
+            return feedCommand(what, x, m, run % 4);
+        }
+        if (kind < 50) {
+            int ticks = pick(run % 3 == 0 ? 8 : 120) + 1;
+            Check.due(what + "tick(" + ticks + ")", x.tick(ticks), m.tick(ticks));
+        } else if (kind < 53) {
+            Check.due(what + "cut", x.cut(), m.cut());
+        } else if (kind < 56) {
+            pourOrRefill(what, x, m);
+        } else if (kind < 60) {
+            askCell(what, x, m);
+        } else {
+            ask(what, x, m, pick(QUESTIONS));
+        }
+        return 1;
     }
 
     private static int feedCommand(String what, PlotKernel x, Model m, int style) {
@@ -74,28 +86,31 @@ public final class ModelTest {
         }
     }
 
-    private static void ask(String what, PlotKernel x, Model m) {
-        Check.due(what + "errors", x.errors(), m.errors);
-        Check.due(what + "queued", x.queued(), m.queued());
-        Check.due(what + "pending", x.pending(), m.pending());
-        Check.due(what + "at", x.at(), m.cell);
-        Check.due(what + "isDown", x.isDown() ? 1 : 0, m.down ? 1 : 0);
-        Check.due(what + "pen", x.pen(), m.pen);
-        for (int pen = 0; pen < 3; pen++) {
-            Check.due(what + "ink(" + pen + ")", x.ink(pen), m.ink[pen]);
+    private static void ask(String what, PlotKernel x, Model m, int question) {
+        switch (question) {
+            case 0 -> Check.due(what + "errors", x.errors(), m.errors);
+            case 1 -> Check.due(what + "queued", x.queued(), m.queued());
+            case 2 -> Check.due(what + "pending", x.pending(), m.pending());
+            case 3 -> Check.due(what + "at", x.at(), m.cell);
+            case 4 -> Check.due(what + "isDown", x.isDown() ? 1 : 0, m.down ? 1 : 0);
+            case 5 -> Check.due(what + "pen", x.pen(), m.pen);
+            case 6 -> Check.due(what + "isWaiting", x.isWaiting() ? 1 : 0, m.isWaiting() ? 1 : 0);
+            case 7 -> Check.due(what + "timeLeft", x.timeLeft(), m.timeLeft());
+            case 8 -> Check.due(what + "stepsUp", x.stepsUp(), m.stepsUp);
+            case 9 -> Check.due(what + "stepsDown", x.stepsDown(), m.stepsDown);
+            case 10 -> Check.due(what + "marks", x.marks(), m.marked.cardinality());
+            case 11 -> Check.due(what + "marksInTheEnd", x.marksInTheEnd(), m.marksInTheEnd());
+            default -> Check.due(what + "ink(" + (question - 12) + ")", x.ink(question - 12), m.ink[question - 12]);
         }
-        Check.due(what + "isWaiting", x.isWaiting() ? 1 : 0, m.isWaiting() ? 1 : 0);
-        Check.due(what + "timeLeft", x.timeLeft(), m.timeLeft());
-        Check.due(what + "stepsUp", x.stepsUp(), m.stepsUp);
-        Check.due(what + "stepsDown", x.stepsDown(), m.stepsDown);
-        Check.due(what + "marks", x.marks(), m.marked.cardinality());
     }
 
-    private static void compareAll(String what, PlotKernel x, Model m) {
-        ask(what, x, m);
-        Check.due(what + "marksInTheEnd", x.marksInTheEnd(), m.marksInTheEnd());
-        for (int cell = 0; cell < 10000; cell++) {
-            Check.due(what + "isMarked " + cell, x.isMarked(cell % 100, cell / 100) ? 1 : 0, m.marked.get(cell) ? 1 : 0);
+    /** Any cell, or a marked one, or one beside it. */
+    private static void askCell(String what, PlotKernel x, Model m) {
+        int[] beside = {0, 0, 1, 99, 100, 101};
+        int cell = pick(10000);
+        if (pick(3) > 0) {
+            cell = Math.min(9999, Math.max(0, m.marked.nextSetBit(cell / 4)) + beside[pick(beside.length)]);
         }
+        Check.due(what + "isMarked " + cell, x.isMarked(cell % 100, cell / 100) ? 1 : 0, m.marked.get(cell) ? 1 : 0);
     }
 }
