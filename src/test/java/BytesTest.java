@@ -76,11 +76,14 @@ public final class BytesTest {
 
     private static void newObjectsShareNothing() {
         Check.promise(1, "Begins with an empty queue and clean paper.");
-        String before = Check.answers(new PlotKernel());
+        PlotKernel older = new PlotKernel();
+        String before = Check.answers(older);
         PlotKernel used = Check.ticked(20, 2, 5, 5, 3, 1, 9, 1, 8, 8, 4);
         used.pour(2, 100);
-        Check.yes("another object is used", !before.equals(Check.answers(used)));
-        Check.yes("a new object is as new as the first", before.equals(Check.answers(new PlotKernel())));
+        Check.yes("an object is used", !before.equals(Check.answers(used)));
+        Check.yes("an older one is as it was", before.equals(Check.answers(older)));
+        Check.no("its cells too", older.isMarked(0, 0) || older.isMarked(5, 5));
+        Check.yes("a newer one is as new as it", before.equals(Check.answers(new PlotKernel())));
         Check.due("marked cells", Check.marked(PlotKernel::new).cardinality(), 0);
     }
 
